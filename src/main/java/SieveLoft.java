@@ -468,8 +468,9 @@ public final class SieveLoft {
         }
         for (int sieve = 0; sieve < m.sieves; sieve++) {
             int falls = m.falling(sieve, came);
-            // With a sieve on which nothing stays the row parts as it does without it, so a shorter one is as good.
-            if (falls == came || s.tries(sieve, depth)) {
+            // A sieve on which nothing stays parts nothing, so a shorter row is as good. One that is in the row already
+            // is such a sieve: what came through it does so again.
+            if (falls == came) {
                 continue;
             }
             put(s.tried, depth, sieve);
@@ -487,8 +488,8 @@ public final class SieveLoft {
         }
         for (int sieve = 0; sieve < m.sieves; sieve++) {
             int falls = m.falling(sieve, came);
-            // As in tryBest, a sieve on which nothing stays only makes the row longer.
-            if (falls == came || s.tries(sieve, depth) || s.mixes(came & ~falls)) {
+            // A sieve on which nothing stays only makes the row longer, as in tryBest.
+            if (falls == came || s.mixes(came & ~falls)) {
                 continue;
             }
             put(s.tried, depth, sieve);
@@ -707,15 +708,6 @@ public final class SieveLoft {
             copyAll(tried, chosen);
             length = n;
             value = itsValue;
-        }
-
-        boolean tries(int sieve, int depth) {
-            for (int p = 0; p < depth; p++) {
-                if (at(tried, p) == sieve) {
-                    return true;
-                }
-            }
-            return false;
         }
 
         boolean mixes(int heap) {
