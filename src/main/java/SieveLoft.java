@@ -105,33 +105,27 @@ public final class SieveLoft {
 
     public int loft() {
         tape.readLoft(trial);
-        tape.length = 0;
-        if (tape.fault >= 0) {
-            return FIRST_FAULT - tape.fault;
+        if (tape.fault < 0) {
+            mill.takeSieves(trial);
+            mill.places = 0;
         }
-        mill.takeSieves(trial);
-        mill.places = 0;
-        return mill.sieves;
+        return tape.answerOr(mill.sieves);
     }
 
     public int heap() {
         tape.readHeap(trial);
-        tape.length = 0;
-        if (tape.fault >= 0) {
-            return FIRST_FAULT - tape.fault;
+        if (tape.fault < 0) {
+            mill.takeGrains(trial);
         }
-        mill.takeGrains(trial);
-        return mill.grains;
+        return tape.answerOr(mill.grains);
     }
 
     public int row() {
         tape.readRow(trial, mill.sieves);
-        tape.length = 0;
-        if (tape.fault >= 0) {
-            return FIRST_FAULT - tape.fault;
+        if (tape.fault < 0) {
+            mill.takeRow(trial);
         }
-        mill.takeRow(trial);
-        return mill.places;
+        return tape.answerOr(mill.places);
     }
 
     public int count(int what) {
@@ -786,6 +780,12 @@ public final class SieveLoft {
             if (next() != END) {
                 blame(place);
             }
+            length = 0;
+        }
+
+        /** What tells the fault, or a number if there was none. */
+        int answerOr(int number) {
+            return fault < 0 ? number : FIRST_FAULT - fault;
         }
 
         // What is read behind the first fault means nothing, so only the first one counts.
