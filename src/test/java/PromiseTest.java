@@ -1,134 +1,12 @@
-import java.nio.charset.StandardCharsets;
-
 /** What each promise of the document says, by runs whose answers were worked out by hand. */
-public final class PromiseTest {
-    private static final int BAD = SieveLoft.BAD, NOT = SieveLoft.NOT, FULL = SieveLoft.FULL, NONE = SieveLoft.NONE;
-    private static final int NULL = SieveLoft.NULL, CAST = SieveLoft.CAST, INDEX = SieveLoft.INDEX, SIZE = SieveLoft.SIZE;
-    private static final int LEAST = Integer.MIN_VALUE, MOST = Integer.MAX_VALUE;
-    private static final long ALL_60 = (1L << 60) - 1;
-
-    private static int promise = 0, checked = 0, wrong = 0;
-
-    private static void due(String call, long got, long want) {
-        checked++;
-        if (got != want) {
-            wrong++;
-            System.out.println("promise " + promise + ": " + call + " answered " + got + ", due is " + want);
-        }
-    }
-
+public final class PromiseTest extends Checks {
     public static void main(String[] args) {
-        for (promise = 1; promise <= 30; promise++) {
-            int before = checked;
-            run(promise);
-            due("number of checks, at least 1", Math.min(checked - before, 1), 1);
-        }
-        System.out.println(checked - wrong + " answers are as due, " + wrong + " are not");
-        System.exit(wrong == 0 ? 0 : 1);
-    }
-
-    private static void run(int number) {
-        switch (number) {
-            case 1: newObject(); break;
-            case 2: grain(); break;
-            case 3: set(); break;
-            case 4: sieve(); break;
-            case 5: told(); break;
-            case 6: mend(); break;
-            case 7: type(); break;
-            case 8: loft(); break;
-            case 9: heap(); break;
-            case 10: row(); break;
-            case 11: count(); break;
-            case 12: found(); break;
-            case 13: where(); break;
-            case 14: chokes(); break;
-            case 15: shake(); break;
-            case 16: lasts(); break;
-            case 17: best(); break;
-            case 18: parted(); break;
-            case 19: season(); break;
-            case 20: fits(); break;
-            case 21: shares(); break;
-            case 22: image(); break;
-            case 23: restore(); break;
-            case 24: meshes(); break;
-            case 25: torn(); break;
-            case 26: sheet(); break;
-            case 27: drop(); break;
-            case 28: item(); break;
-            case 29: film(); break;
-            case 30: copy(); break;
-            default: break;
-        }
-    }
-
-    // ---- helpers
-
-    /** Types a text, eight bytes at a time; answers the last answer. */
-    private static int typed(SieveLoft x, String text) {
-        byte[] bytes = text.getBytes(StandardCharsets.US_ASCII);
-        int answer = 0;
-        for (int i = 0; i < bytes.length; i += 8) {
-            int n = Math.min(8, bytes.length - i);
-            long w = 0;
-            for (int j = 0; j < n; j++) {
-                w = w << 8 | bytes[i + j];
-            }
-            answer = x.type(w, n);
-        }
-        return answer;
-    }
-
-    private static int loft(SieveLoft x, String text) {
-        typed(x, text);
-        return x.loft();
-    }
-
-    private static int heap(SieveLoft x, String text) {
-        typed(x, text);
-        return x.heap();
-    }
-
-    private static int row(SieveLoft x, String text) {
-        typed(x, text);
-        return x.row();
-    }
-
-    private static SieveLoft mill(String loft, String heap, String row) {
-        SieveLoft x = new SieveLoft();
-        if (!loft.isEmpty()) {
-            due("loft \"" + loft + "\"", loft(x, loft), loft.split(",").length);
-        }
-        if (!heap.isEmpty()) {
-            due("heap \"" + heap + "\"", heap(x, heap), heap.split(",").length);
-        }
-        due("row \"" + row + "\"", row(x, row), row.length());
-        return x;
-    }
-
-    private static void dueSieve(SieveLoft x, int s, int kind, int mesh, int holds, int wear) {
-        due("told(" + s + ", 0)", x.told(s, 0), kind);
-        due("told(" + s + ", 1)", x.told(s, 1), mesh);
-        due("told(" + s + ", 2)", x.told(s, 2), holds);
-        due("told(" + s + ", 3)", x.told(s, 3), wear);
-    }
-
-    /** Fills a sheet of shorts with items. */
-    private static void fill(SieveLoft x, int sheet, int... items) {
-        due("sheet", x.sheet(sheet, 1, items.length), items.length);
-        for (int i = 0; i < items.length; i++) {
-            due("item", x.item(sheet, 1, i, items[i]), 1);
-        }
-    }
-
-    /** Bits of meshes or sizes from one to another. */
-    private static long bits(int from, int to) {
-        long set = 0;
-        for (int i = from; i <= to; i++) {
-            set |= 1L << (i - 1);
-        }
-        return set;
+        runAll(PromiseTest::newObject, PromiseTest::grain, PromiseTest::set, PromiseTest::sieve, PromiseTest::told,
+            PromiseTest::mend, PromiseTest::type, PromiseTest::loft, PromiseTest::heap, PromiseTest::row,
+            PromiseTest::count, PromiseTest::found, PromiseTest::where, PromiseTest::chokes, PromiseTest::shake,
+            PromiseTest::lasts, PromiseTest::best, PromiseTest::parted, PromiseTest::season, PromiseTest::fits,
+            PromiseTest::shares, PromiseTest::image, PromiseTest::restore, PromiseTest::meshes, PromiseTest::torn,
+            PromiseTest::sheet, PromiseTest::drop, PromiseTest::item, PromiseTest::film, PromiseTest::copy);
     }
 
     // ---- promises
@@ -675,7 +553,7 @@ public final class PromiseTest {
         due("restore()", x.restore(), NONE);
         x.shake();
         due("image()", x.image(), 1);
-        fill(x, 0, 2, 0);
+        fill(x, 0, 1, 2, 0);
         x.shake();
         x.mend(1, 2);
         x.sieve(1, 2, 3, 0);
@@ -705,7 +583,7 @@ public final class PromiseTest {
 
     private static void meshes() {
         SieveLoft x = mill("p40,p20,k10,t5", "50,30,15,7*0,15", "0132");
-        fill(x, 1, 99, 0, 1, 3, 77, 3, -1);
+        fill(x, 1, 1, 99, 0, 1, 3, 77, 3, -1);
         due("meshes(0, ..)", x.meshes(0, 1, 1, 1), bits(30, 49));
         due("meshes(1, ..)", x.meshes(1, 1, 1, 1), bits(15, 29));
         due("meshes(2, ..)", x.meshes(2, 1, 1, 1), bits(1, 14));
@@ -730,7 +608,7 @@ public final class PromiseTest {
         due("not in the row", x.meshes(0, 1, 1, 1), NOT);
         // With too narrow a mesh it chokes.
         SieveLoft y = mill("p40h2", "50*2,30*1", "0");
-        fill(y, 0, 0, 0);
+        fill(y, 0, 1, 0, 0);
         due("choked, or wide enough for none", y.meshes(0, 0, 1, 0), bits(1, 29));
         y.item(0, 1, 0, 1);
         y.item(0, 1, 1, 1);
@@ -746,7 +624,7 @@ public final class PromiseTest {
 
     private static void torn() {
         SieveLoft x = mill("p40,p20,t10", "50,30,15,7*0,15", "012");
-        fill(x, 1, 99, 0, 1, 3, 77, 3, -1);
+        fill(x, 1, 1, 99, 0, 1, 3, 77, 3, -1);
         due("as they are, and the torn one", x.torn(1, 1, 1), 128 + 4);
         x.item(1, 1, 2, 3);
         due("the second", x.torn(1, 1, 1), 2);
@@ -768,10 +646,10 @@ public final class PromiseTest {
         due("nothing changes", x.told(0, 0), 0);
         // Torn, it does not choke.
         SieveLoft y = mill("p40,p20h1", "50,30*2,10", "10");
-        fill(y, 0, 1, 2, 2);
+        fill(y, 0, 1, 1, 2, 2);
         due("the place that chokes", y.torn(0, 1, 0), 1);
         row(y, "");
-        fill(y, 0, 0, 0, 0);
+        fill(y, 0, 1, 0, 0, 0);
         due("an empty row", y.torn(0, 1, 0), 128);
         SieveLoft z = mill("p40", "", "0");
         z.sheet(0, 2, 3);
@@ -797,7 +675,7 @@ public final class PromiseTest {
         due("nothing came", x.drop(1), NULL);
         due("what is refused changes nothing", x.sheet(0, 1, -1), SIZE);
         due("what is refused changes nothing", x.drop(0), 24);
-        fill(x, 2, 1, 1);
+        fill(x, 2, 1, 1, 1);
         due("as if it were torn", x.torn(2, 1, 0), 1);
         due("a new row", x.sheet(2, 2, 2), 2);
         due("of another lane", x.item(2, 1, 0, 0), CAST);
@@ -896,8 +774,8 @@ public final class PromiseTest {
 
     private static void copy() {
         SieveLoft x = mill("p55,p45,p35", "60", "012");
-        fill(x, 0, 0, 1, 2, 3, 0);
-        fill(x, 1, 3, 3, 3);
+        fill(x, 0, 1, 0, 1, 2, 3, 0);
+        fill(x, 1, 1, 3, 3, 3);
         due("copy", x.copy(0, 1, 1, 0, 2), 2);
         dueItems(x, 1, 1, 2, 3);
         dueItems(x, 0, 0, 1, 2, 3, 0);
