@@ -560,6 +560,13 @@ public final class EdgeTest extends States {
         due("one more than it holds", z.chokes(), 1);
         row(z, "1");
         due("just what it holds", z.chokes(), 0);
+        // A sieve that is in the row no more does not choke, nor does one that never was.
+        SieveLoft u = mill("p5h1,p50", "9*2", "1");
+        due("never in the row", u.chokes(), 0);
+        row(u, "10");
+        due("in the row", u.chokes(), 2);
+        row(u, "1");
+        due("no more in the row", u.chokes(), 0);
         // Of a heap of two, neither alone is too much.
         SieveLoft v = mill("p5h9", "9*5,8*5", "0");
         due("together", v.chokes(), 1);
@@ -687,6 +694,16 @@ public final class EdgeTest extends States {
         y.mend(2, 19);
         due("the first of two", y.best(4, 0), 2);
         due("alone", y.best(4, 1), NONE);
+        // A sieve that is there no more is in no row.
+        SieveLoft u = mill("p60,p9", "5*2$9,20*3$7", "");
+        due("the second parts", u.best(4, 0), 1);
+        loft(u, "p60");
+        due("there is one that does not", u.best(4, -1), 0);
+        u.image();
+        u.sieve(0, 9, 9, 0);
+        due("the second parts", u.best(4, 0), 1);
+        u.restore();
+        due("there is one that does not", u.best(4, -1), 0);
         // The wider one comes first.
         SieveLoft z = mill("p30,p40,p10", "50$3,35$2,20$1", "");
         due("best(2, -1)", z.best(2, -1), 2);
@@ -729,6 +746,11 @@ public final class EdgeTest extends States {
         due("one of amount 0", x.parted(3, 0), NONE);
         due("no sieves", mill("", "7,8", "").parted(3, -1), NONE);
         due("no sieves, one grain", mill("", "7,8", "").parted(2, -1), 0);
+        // A sieve that is there no more parts nothing.
+        SieveLoft u = mill("p60,p9", "5,20", "");
+        due("the second", u.parted(3, 0), 1);
+        loft(u, "p60");
+        due("there is one that does not", u.parted(3, -1), NONE);
         // The last of eight, and of like ones the first.
         SieveLoft y = mill("s60,s60,s60,s60,s60,s60,s60,s9", "5,20", "");
         due("the last of eight", y.parted(3, 0), 7);

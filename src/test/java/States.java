@@ -112,6 +112,7 @@ abstract class States extends Checks {
             b.append(" heap ").append(x.found(k, 0)).append(' ').append(x.found(k, 2)).append(' ').append(x.fits(k));
         }
         b.append(" chokes ").append(x.chokes()).append(" lasts ").append(x.lasts());
+        b.append(" best ").append(x.best(4, -2)).append(' ').append(x.best(4, 0));
         for (int g = x.count(1) - 1; g >= 0; g--) {
             b.append(" grain ").append(x.set(g, 0, 1)).append(' ').append(x.set(g, 1, 1)).append(' ').append(x.set(g, 2, 1));
         }
