@@ -7,24 +7,30 @@ abstract class Checks {
     static final int LEAST = Integer.MIN_VALUE, MOST = Integer.MAX_VALUE;
     static final long ALL_60 = (1L << 60) - 1;
 
-    static int promise = 0;
+    private static String of = "";
     private static int checked = 0, wrong = 0;
 
     Checks() { }
 
-    /** The checks of one promise, or several methods of such. */
+    /** The checks of one promise, or of another piece of the document. */
     interface Part {
         void check();
     }
 
     /** Runs the parts, of which the first is for promise 1; ends the machine with 1 if an answer was wrong. */
-    static void runAll(Part... parts) {
-        for (promise = 1; promise <= parts.length; promise++) {
+    static void runPromises(Part... parts) {
+        due("number of promises", parts.length, 30);
+        runPieces("promise", parts);
+    }
+
+    /** Runs the parts, which bear a name and a number from 1 on; ends the machine with 1 if an answer was wrong. */
+    static void runPieces(String name, Part... parts) {
+        for (int i = 0; i < parts.length; i++) {
+            of = name + " " + (i + 1);
             int before = checked;
-            parts[promise - 1].check();
+            parts[i].check();
             due("number of checks, at least 1", Math.min(checked - before, 1), 1);
         }
-        due("number of promises", parts.length, 30);
         System.out.println(checked - wrong + " answers are as due, " + wrong + " are not");
         System.exit(wrong == 0 ? 0 : 1);
     }
@@ -33,7 +39,7 @@ abstract class Checks {
         checked++;
         if (got != want) {
             wrong++;
-            System.out.println("promise " + promise + ": " + call + " answered " + got + ", due is " + want);
+            System.out.println(of + ": " + call + " answered " + got + ", due is " + want);
         }
     }
 

@@ -30,7 +30,7 @@ public final class EdgeTest extends States {
     private static final Call COPY = (x, a) -> x.copy(a[0], a[1], a[2], a[3], a[4]);
 
     public static void main(String[] args) {
-        runAll(EdgeTest::newObject, EdgeTest::grain, EdgeTest::set, EdgeTest::sieve, EdgeTest::told,
+        runPromises(EdgeTest::newObject, EdgeTest::grain, EdgeTest::set, EdgeTest::sieve, EdgeTest::told,
             EdgeTest::mend, EdgeTest::type, EdgeTest::loft, EdgeTest::heap, EdgeTest::row,
             EdgeTest::count, EdgeTest::found, EdgeTest::where, EdgeTest::chokes, EdgeTest::shake,
             EdgeTest::lasts, EdgeTest::best, EdgeTest::parted, EdgeTest::season, EdgeTest::fits,

@@ -1,7 +1,7 @@
 /** What each promise of the document says, by runs whose answers were worked out by hand. */
 public final class PromiseTest extends Checks {
     public static void main(String[] args) {
-        runAll(PromiseTest::newObject, PromiseTest::grain, PromiseTest::set, PromiseTest::sieve, PromiseTest::told,
+        runPromises(PromiseTest::newObject, PromiseTest::grain, PromiseTest::set, PromiseTest::sieve, PromiseTest::told,
             PromiseTest::mend, PromiseTest::type, PromiseTest::loft, PromiseTest::heap, PromiseTest::row,
             PromiseTest::count, PromiseTest::found, PromiseTest::where, PromiseTest::chokes, PromiseTest::shake,
             PromiseTest::lasts, PromiseTest::best, PromiseTest::parted, PromiseTest::season, PromiseTest::fits,
